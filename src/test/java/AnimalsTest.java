@@ -87,19 +87,11 @@ public final class AnimalsTest {
         bones.piece(0, 2, 1, 0);
         bones.piece(0, 1, 2, 140);
         bones.bound(0, 30);
-        bones.table(0, 0, 0, 4);
-        bones.table(0, 1, 5, 9);
-        bones.worn(1, 0);
-        bones.worn(2, 1);
-        bones.table(0, 2, 0, 7);
-        bones.table(0, 3, 8, 20);
-        bones.worn(3, 2);
-        bones.worn(4, 3);
-        Checks.due("1 and 4 by ages", bones.clash(1, 4), 2);
-        bones.table(0, 4, 4, 20);
-        bones.worn(4, 4);
-        bones.table(0, 5, 0, 3);
-        bones.worn(3, 5);
+        int[][] ages = {{0, 999}, {0, 4}, {5, 9}, {0, 3}, {4, 20}};
+        for (int i = 0; i < 5; i++) {
+            bones.table(0, i, ages[i][0], ages[i][1]);
+            bones.worn(i, i);
+        }
         ring(bones);
         Checks.due("least", bones.least(0), 3);
         animalsAre(bones, 0, 1, 0, 1, 2);

@@ -48,7 +48,6 @@ public final class ClashTest {
         CountLeast bones = new CountLeast();
         for (int i = 0; i < 4; i++) {
             bones.piece(2, i, 2, 0);
-            bones.worn(i, i);
         }
         bones.table(2, 0, 0, 6);
         bones.table(2, 1, 7, 12);
