@@ -350,13 +350,13 @@ public final class CountLeast {
         private int greatest = 0;
         private final int[] foesOf = new int[PIECES_OF_KIND];
         private final int[] setOf = new int[PIECES_OF_KIND];
-        private final int[] inSet = new int[PIECES_OF_KIND];
+        private final int[] barred = new int[PIECES_OF_KIND];
 
         void begin(int places) {
             count = Math.max(0, Math.min(places, PIECES_OF_KIND));
             for (int i = 0; i < PIECES_OF_KIND; i++) {
                 foesOf[i] = 0;
-                inSet[i] = 0;
+                barred[i] = 0;
             }
         }
 
@@ -415,15 +415,21 @@ public final class CountLeast {
                 return true;
             }
             int bit = 1 << place;
+            int laterFoes = foesOf[place] & -bit;
             int tried = Math.min(used + 1, Math.min(fewest, PIECES_OF_KIND));
             for (int set = 0; set < tried; set++) {
-                if ((inSet[set] & foesOf[place]) == 0) {
-                    inSet[set] |= bit;
+                int before = barred[set];
+                if ((before & bit) == 0) {
+                    barred[set] = before | foesOf[place];
                     setOf[place] = set;
                     if (fill(place + 1, Math.max(used, set + 1))) {
                         return true;
                     }
-                    inSet[set] &= ~bit;
+                    barred[set] = before;
+                    // It stood in no later one's way here, so the rest fails wherever else it goes.
+                    if ((laterFoes & ~before) == 0) {
+                        return false;
+                    }
                 }
             }
             return false;
